@@ -184,6 +184,11 @@ public final class EventTest {
         x.event('C', 3, 0, 0);
         Check.due("the same key bars", 0, x.runs());
         Check.due("the same key bars", 2, x.figure(5));
+        PatternWatch apart = Check.watch("A+*B#@9");
+        apart.event('A', 3, 0, 0);
+        apart.event('A', 3, 0, 0);
+        Check.due("the one gone on keeps the first one's key", 0, apart.event('B', 0, 0, 0));
+        Check.due("the one gone on keeps the first one's key", 1, apart.event('B', 3, 0, 0));
         PatternWatch free = Check.watch("AB@9");
         free.event('A', 1, 0, 0);
         Check.due("not keyed", 1, free.event('B', 2, 0, 0));
@@ -209,6 +214,13 @@ public final class EventTest {
         Check.due("the first event's time counts, not the last one's", 1, first.event('B', 0, 0, 6));
         Check.match("the first event's time counts", first, 0, 1, 2);
         Check.due("the first event's time counts", 1, first.figure(4));
+        PatternWatch apart = Check.watch("A+*B@10");
+        apart.event('A', 0, 0, 20);
+        apart.event('A', 0, 0, 6);
+        Check.due("the one gone on keeps the first one's time", 1, apart.event('B', 0, 0, 4));
+        apart.event('A', 0, 0, 20);
+        apart.event('A', 0, 0, 6);
+        Check.due("the one gone on keeps the first one's time", 0, apart.event('B', 0, 0, 5));
     }
 
     private static void barred() {

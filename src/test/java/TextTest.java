@@ -141,7 +141,8 @@ public final class TextTest {
         PatternWatch x = Check.watch("AB!CB@9");
         x.event('A', 0, 0, 10);
         x.event('A', 0, 0, 10);
-        Check.feed(x, "ABC");
+        Check.feed(x, "ABC" + "A".repeat(25));
+        Check.due("one was dropped before", 1, x.figure(3));
         Check.retype(x, "*A@8");
         Check.due("load of another", 2, x.load());
         Check.due("no runs", 0, x.runs());
