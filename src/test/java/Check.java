@@ -2,6 +2,7 @@
 final class Check {
     private static int wrong = 0;
     private static int asked = 0;
+    private static String sentence = "";
 
     interface Call {
         void make();
@@ -10,11 +11,20 @@ final class Check {
     private Check() {
     }
 
+    /** The document's sentence that the answers from here on hold to; it is told with each wrong one. */
+    static void sentence(String words) {
+        sentence = "\"" + words + "\": ";
+    }
+
+    private static void tell(String what) {
+        wrong++;
+        System.out.println(sentence + what);
+    }
+
     static void due(String what, long want, long got) {
         asked++;
         if (got != want) {
-            wrong++;
-            System.out.println(what + " answered " + got + ", due is " + want);
+            tell(what + " answered " + got + ", due is " + want);
         }
     }
 
@@ -32,9 +42,64 @@ final class Check {
             got = e.getClass().getSimpleName();
         }
         if (!got.equals(want.getSimpleName())) {
-            wrong++;
-            System.out.println(what + " threw " + got + ", due is " + want.getSimpleName());
+            tell(what + " threw " + got + ", due is " + want.getSimpleName());
         }
+    }
+
+    /** The call throws just this, and every answer behind it is what it was before. */
+    static void refused(String what, Class<? extends RuntimeException> want, PatternWatch x, Call call) {
+        String before = state(x);
+        thrown(what, want, call);
+        same(what, before, state(x));
+    }
+
+    static void same(String what, String before, String after) {
+        asked++;
+        if (!after.equals(before)) {
+            tell(what + " changed\n  " + before + " to\n  " + after);
+        }
+    }
+
+    /** All that an object tells, but for its text, which only load shows. */
+    static String state(PatternWatch x) {
+        return "fault " + x.fault() + standing(x);
+    }
+
+    /** All that a load that throws may not change. */
+    static String standing(PatternWatch x) {
+        StringBuilder s = new StringBuilder("; figures");
+        for (int k = 0; k < 8; k++) {
+            s.append(' ').append(x.figure(k));
+        }
+        int runs = x.runs();
+        for (int place = 0; place < runs; place++) {
+            s.append("; run");
+            for (int what = 0; what < 4; what++) {
+                s.append(' ').append(x.run(place, what));
+            }
+        }
+        int matches = matches(x);
+        for (int i = 0; i < matches; i++) {
+            int size = x.size(i);
+            s.append("; match");
+            for (int k = 0; k < size; k++) {
+                s.append(' ').append(x.at(i, k));
+            }
+        }
+        return s.toString();
+    }
+
+    /** How many matches of the latest event are told. */
+    static int matches(PatternWatch x) {
+        int i = 0;
+        try {
+            while (x.size(i) > 0) {
+                i++;
+            }
+        } catch (IndexOutOfBoundsException e) {
+            return i;
+        }
+        return i;
     }
 
     static void end() {
@@ -53,6 +118,25 @@ final class Check {
     static void retype(PatternWatch x, String text) {
         x.wipe();
         typeAll(x, text);
+    }
+
+    /** A new object that takes this text for a pattern of so many steps and such a window. */
+    static void isPattern(String text, int steps, int window) {
+        PatternWatch x = new PatternWatch();
+        typeAll(x, text);
+        due("load of " + text, steps, x.load());
+        due("fault of " + text, -1, x.fault());
+        figures("load of " + text, x, 0, 0, 0, 0, 0, 0, steps, window);
+    }
+
+    /** A new object that takes this text for none, with this fault, and has no pattern behind that. */
+    static void isNoPattern(String text, int fault) {
+        PatternWatch x = new PatternWatch();
+        typeAll(x, text);
+        thrown("load of " + text, IllegalArgumentException.class, () -> x.load());
+        due("fault of " + text, fault, x.fault());
+        figures("load of " + text, x, 0, 0, 0, 0, 0, 0, 0, 0);
+        thrown("event after " + text, IllegalStateException.class, () -> x.event('A', 0, 0, 0));
     }
 
     /** A new object with this pattern loaded. */

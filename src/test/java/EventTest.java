@@ -33,11 +33,8 @@ public final class EventTest {
         Check.thrown("no pattern", IllegalStateException.class, () -> none.event('A', 0, 0, 0));
         Check.thrown("no pattern and a wrong kind", IllegalStateException.class, () -> none.event('G', 0, 0, 0));
         PatternWatch x = Check.watch("*@9");
-        for (int c = 0; c < 65536; c++) {
-            char kind = (char) c;
-            if (c < 'A' || c > 'F') {
-                Check.thrown("kind " + c, ARGUMENT, () -> x.event(kind, 0, 0, 0));
-            }
+        for (char kind : "@Gaf*#0 \0\uffff".toCharArray()) {
+            Check.thrown("kind " + (int) kind, ARGUMENT, () -> x.event(kind, 0, 0, 0));
         }
         for (int far : new int[] {Integer.MIN_VALUE, -1001, 1001, Integer.MAX_VALUE}) {
             Check.thrown("key " + far, ARGUMENT, () -> x.event('A', far, 0, 0));
